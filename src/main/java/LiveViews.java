@@ -109,17 +109,14 @@ public final class LiveViews {
 
     private static final class View {
         private final int made;
-        private final State state = new State();
+        private final State state;
         private final Segment[] parts;
         private int opened = 0;
 
-        private View(int made, State state, Segment[] row, int count) {
+        private View(int made, State state, Segment[] parts) {
             this.made = made;
-            this.state.copyFrom(state);
-            this.parts = new Segment[count];
-            for (int i = 0; i < count; i++) {
-                this.parts[i] = row[i];
-            }
+            this.state = state;
+            this.parts = parts;
         }
     }
 
@@ -138,7 +135,7 @@ public final class LiveViews {
     private int countings = 0;
 
     public LiveViews() {
-        View first = new View(0, now, new Segment[0], 0);
+        View first = new View(0, new State(), new Segment[0]);
         views[0] = first;
         latest = first;
         committed = first;
@@ -406,9 +403,23 @@ public final class LiveViews {
         for (; count > MOST_SEGMENTS; count--) {
             mergeFewest(row, count);
         }
-        latest = new View(viewsMade, now, row, count);
+        addView(firstOf(row, count));
+    }
+
+    private void addView(Segment[] parts) {
+        State state = new State();
+        state.copyFrom(now);
+        latest = new View(viewsMade, state, parts);
         views[viewsMade] = latest;
         viewsMade++;
+    }
+
+    private static Segment[] firstOf(Segment[] row, int count) {
+        Segment[] first = new Segment[count];
+        for (int i = 0; i < count; i++) {
+            first[i] = row[i];
+        }
+        return first;
     }
 
     private boolean isNewRow(int key) {

@@ -158,6 +158,9 @@ public final class ChangesTest {
         x.remove(0, 1);
         DUE.is("the latest one", x.conflict(1), 1);
         DUE.is("the latest one", x.conflict(2), 2);
+        x.remove(0, 2);
+        x.write(0, 1, 3);
+        DUE.is("0 is found of a removed one", x.conflict(2), 0);
     }
 
     private static void conflictOutlivesACrash() {

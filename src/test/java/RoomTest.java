@@ -70,6 +70,8 @@ public final class RoomTest {
         int later = x.refresh();
         DUE.is("one fits", x.drop(later, 2), 1);
         DUE.is("told(3)", x.told(3), 600);
+        DUE.is("what is missed needs no room", x.drop(later, 2), 0);
+        DUE.is("missed one", x.conflict(0), 1);
     }
 
     private static LiveViews withViews(int count) {
