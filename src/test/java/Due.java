@@ -1,6 +1,7 @@
 /** Counts the calls of one test whose answer is not the one that is due. */
 final class Due {
     private final String test;
+    private String sentence = "";
     private int calls = 0;
     private int wrong = 0;
 
@@ -8,12 +9,21 @@ final class Due {
         this.test = test;
     }
 
+    /** The words of the document that the answers from here on are due to. */
+    void to(String words) {
+        sentence = " [" + words + "]";
+    }
+
     void is(String call, int got, int want) {
         calls++;
         if (got != want) {
             wrong++;
-            System.out.println(test + ": " + call + " answered " + got + ", due is " + want);
+            System.out.println(test + sentence + ": " + call + " answered " + got + ", due is " + want);
         }
+    }
+
+    void is(Calls x, int got, int want) {
+        is(x.last(), got, want);
     }
 
     void holds(String what, boolean isSo) {
