@@ -227,7 +227,7 @@ public final class RefusalsTest {
     }
 
     private static void askingChangesNothing() {
-        DUE.to("nothing is promised to change but what a promise says");
+        DUE.to("Nothing is promised beyond the answers and state changes described above");
         Twins.changesNothing(DUE, Leads::withAllSorts, x -> {
             x.conflict(0);
             x.conflict(1);
