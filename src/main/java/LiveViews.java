@@ -384,6 +384,7 @@ public final class LiveViews {
         return view.state.asOf == state.asOf || viewsMade < MOST_VIEWS;
     }
 
+    /** Callers refuse first if there is no room; it is looked at here too, as an index rests on it. */
     private void refreshLatest() {
         if (latest.state.asOf == now.asOf || viewsMade >= MOST_VIEWS) {
             return;
